@@ -1,0 +1,106 @@
+import java.lang.reflect.Constructor;
+import java.lang.reflect.Executable;
+import java.lang.reflect.Field;
+import java.lang.reflect.Member;
+import java.lang.reflect.Method;
+import java.lang.reflect.Modifier;
+import java.nio.file.Files;
+import java.nio.file.Path;
+import java.util.ArrayList;
+import java.util.Arrays;
+import java.util.List;
+import java.util.Set;
+import java.util.TreeSet;
+import java.util.regex.Pattern;
+
+/** The public face is the document's and no more, and the source keeps to LANGUAGE.md. */
+public final class FaceTest {
+    private static final Due due = new Due("FaceTest");
+
+    private static final Set<String> FACE = new TreeSet<>(List.of(
+            "int form(int, long, long, long, boolean, boolean)", "int forget()", "int feed(int, long)",
+            "int cut(int)", "int octet(int)", "int count(int)", "long sum(int, int, int)",
+            "long joined(int, long, long, long)", "long zeros(int, long, long)",
+            "long changed(int, long, long, int)", "long tail(int, long, long)", "int factors(int)",
+            "long factor(int, int, int)", "long order(int)", "int distance(int, int)",
+            "long added(int, int, int)", "long addedJoined(int, long, long, long)"));
+
+    public static void main(String[] args) throws Exception {
+        members();
+        nested();
+        words(Files.readString(Path.of(System.getProperty("source"))));
+        due.end();
+    }
+
+    private static void members() {
+        due.holds("the class is public and final",
+                SumForms.class.getModifiers() == (Modifier.PUBLIC | Modifier.FINAL));
+        due.is("BAD", SumForms.BAD, -1);
+        due.is("FULL", SumForms.FULL, -2);
+        Set<String> seen = new TreeSet<>();
+        for (Method method : SumForms.class.getDeclaredMethods()) {
+            if (visible(method)) {
+                due.holds(method + " is public and not static", method.getModifiers() == Modifier.PUBLIC);
+                seen.add(method.getReturnType() + " " + method.getName() + parameters(method));
+            }
+        }
+        due.holds("methods are " + FACE + ", seen: " + seen, seen.equals(FACE));
+        List<String> fields = new ArrayList<>();
+        for (Field field : SumForms.class.getDeclaredFields()) {
+            if (visible(field)) {
+                fields.add(field.getName());
+            }
+        }
+        due.holds("visible fields: " + fields, fields.equals(List.of("BAD", "FULL")));
+        Constructor<?>[] constructors = SumForms.class.getDeclaredConstructors();
+        due.is("constructors", constructors.length, 1);
+        due.holds("the constructor is public", constructors[0].getModifiers() == Modifier.PUBLIC);
+    }
+
+    private static boolean visible(Member member) {
+        return !Modifier.isPrivate(member.getModifiers()) && !member.isSynthetic();
+    }
+
+    private static String parameters(Executable call) {
+        return Arrays.toString(call.getParameterTypes()).replace('[', '(').replace(']', ')');
+    }
+
+    private static void nested() {
+        Set<String> names = new TreeSet<>();
+        for (String call : FACE) {
+            names.add(call.substring(call.indexOf(' ') + 1, call.indexOf('(')));
+        }
+        List<Class<?>> all = new ArrayList<>(List.of(SumForms.class.getDeclaredClasses()));
+        for (Class<?> inside : all) {
+            due.holds(inside + " is static", Modifier.isStatic(inside.getModifiers()));
+            due.holds(inside + " is not public", !Modifier.isPublic(inside.getModifiers()));
+        }
+        due.holds("at most twelve classes", all.size() < 12);
+        all.add(SumForms.class);
+        for (Class<?> one : all) {
+            int fields = 0;
+            for (Field field : one.getDeclaredFields()) {
+                fields += Modifier.isStatic(field.getModifiers()) ? 0 : 1;
+                due.holds(field + ": static is final", !Modifier.isStatic(field.getModifiers())
+                        || Modifier.isFinal(field.getModifiers()));
+            }
+            due.holds(one + " has at most twenty fields", fields <= 20);
+            for (Method method : one.getDeclaredMethods()) {
+                due.holds(method + " has at most seven parameters", method.getParameterCount() <= 7);
+                due.holds(method + " bears no public name",
+                        visible(method) || !names.contains(method.getName()));
+            }
+        }
+    }
+
+    private static void words(String source) {
+        String code = source.replaceAll("(?s)/\\*.*?\\*/", "").replaceAll("//[^\n]*", "");
+        for (String word : List.of("throw", "try", "catch", "synchronized", "assert", "import", "package",
+                "throws", "System", "Object", "var", "yield", "native", "volatile")) {
+            due.holds("no word " + word, !Pattern.compile("\\b" + word + "\\b").matcher(code).find());
+        }
+        for (String sign : List.of("->", "::", "\"", "@", "static {")) {
+            due.holds("no sign " + sign, !code.contains(sign));
+        }
+    }
+}
