@@ -303,16 +303,12 @@ public final class SumForms {
             for (int k = 0; k < 8; k++) {
                 long bit = octet >> (in ? k : 7 - k) & 1;
                 // The highest bit, which goes, stands for whether it and this one are not the same.
-                now = movedUp(now ^ bit << (width - 1));
+                now = Polynomials.timesX(now ^ bit << (width - 1), generator, width);
             }
             return now;
         }
 
-        private long movedUp(long register) {
-            return Polynomials.timesX(register, generator, width);
-        }
-
-        // P is odd, so that the lowest bit tells whether it came in when the register was moved up.
+        // Undoes one step up: P is odd, so that the lowest bit tells whether it came in.
         private long movedDown(long register) {
             return ((register & 1) != 0 ? register ^ generator : register) >>> 1;
         }
@@ -321,7 +317,7 @@ public final class SumForms {
         private long movedByOctets(long register, long n) {
             long step = 1;
             for (int k = 0; k < 8; k++) {
-                step = movedUp(step);
+                step = Polynomials.timesX(step, generator, width);
             }
             long now = register;
             for (int bit = 0; bit < LENGTH_BITS && n >>> bit != 0; bit++) {

@@ -32,15 +32,6 @@ public final class AddingTest {
         due.is("ADLER of Wikipedia", x.added(0, 0, 9), 0x11E60398);
     }
 
-    private static byte[] fill(SumForms x, int n) {
-        byte[] octets = new byte[n];
-        random.nextBytes(octets);
-        for (byte octet : octets) {
-            x.feed(1, octet);
-        }
-        return octets;
-    }
-
     private static long fletcher(byte[] octets, int from, int to) {
         int a = 0;
         int b = 0;
@@ -53,7 +44,7 @@ public final class AddingTest {
 
     private static void parts() {
         SumForms x = new SumForms();
-        byte[] octets = fill(x, 500);
+        byte[] octets = Octets.feed(x, random, 500);
         for (int k = 0; k < 300; k++) {
             int from = k == 0 ? 0 : random.nextInt(501);
             int to = k == 0 ? 500 : from + random.nextInt(501 - from);
@@ -81,7 +72,7 @@ public final class AddingTest {
 
     private static void joined() {
         SumForms x = new SumForms();
-        fill(x, 400);
+        Octets.feed(x, random, 400);
         for (int what = 0; what < 2; what++) {
             for (int middle = 0; middle <= 400; middle += 4) {
                 due.is("addedJoined(" + what + ", ..) at " + middle, x.addedJoined(what,

@@ -58,7 +58,7 @@ public final class SumsTest {
         SumForms x = new SumForms();
         x.form(32, 0x04C11DB7, 0xFFFFFFFFL, 0xFFFFFFFFL, true, true);
         x.form(32, 0x1EDC6F41, 0xFFFFFFFFL, 0xFFFFFFFFL, true, true);
-        byte[] octets = fill(x, 600);
+        byte[] octets = Octets.feed(x, random, 600);
         for (int k = 0; k < 100; k++) {
             int from = k == 0 ? 0 : random.nextInt(601);
             int to = k == 0 ? 600 : from + random.nextInt(601 - from);
@@ -71,20 +71,11 @@ public final class SumsTest {
         }
     }
 
-    private static byte[] fill(SumForms x, int n) {
-        byte[] octets = new byte[n];
-        random.nextBytes(octets);
-        for (byte octet : octets) {
-            x.feed(1, octet);
-        }
-        return octets;
-    }
-
     private static void partsOfSum() {
         SumForms x = new SumForms();
         x.form(8, 7, 0x12, 0x34, false, false);
         x.form(8, 7, 0x12, 0x34, false, true);
-        fill(x, 9);
+        Octets.feed(x, random, 9);
         for (int i = 0; i <= 9; i++) {
             due.is("sum of none", x.sum(0, i, i), 0x12 ^ 0x34);
             due.is("sum of none, turned", x.sum(1, i, i), 0x48 ^ 0x34);
@@ -114,7 +105,7 @@ public final class SumsTest {
         for (int width = 3; width <= 32; width++) {
             SumForms x = new SumForms();
             anyForm(x, width);
-            fill(x, 60);
+            Octets.feed(x, random, 60);
             for (int middle = 0; middle <= 60; middle++) {
                 due.is("joined at " + middle + ", width " + width,
                         x.joined(0, x.sum(0, 0, middle), x.sum(0, middle, 60), 60 - middle), x.sum(0, 0, 60));
@@ -126,7 +117,7 @@ public final class SumsTest {
         for (int width = 3; width <= 32; width++) {
             SumForms x = new SumForms();
             anyForm(x, width);
-            fill(x, 10);
+            Octets.feed(x, random, 10);
             long sum = x.sum(0, 0, 10);
             for (int n = 0; n <= 30; n++) {
                 due.is("zeros " + n + ", width " + width, x.zeros(0, sum, n), x.sum(0, 0, 10 + n));
@@ -145,7 +136,7 @@ public final class SumsTest {
                 int mask = i == 0 ? 255 : i == 1 ? 1 : random.nextInt(256);
                 SumForms x = new SumForms();
                 anyForm(x, width);
-                fill(x, 20);
+                Octets.feed(x, random, 20);
                 long sum = x.sum(0, 0, 20);
                 due.is("changed by none", x.changed(0, sum, 19 - i, 0), sum);
                 long changed = x.changed(0, sum, 19 - i, mask);
@@ -173,7 +164,7 @@ public final class SumsTest {
             for (int round = 0; round < 20; round++) {
                 SumForms x = new SumForms();
                 anyForm(x, width);
-                fill(x, 5);
+                Octets.feed(x, random, 5);
                 long bits = (1L << width) - 1;
                 long wanted = round == 0 ? 0 : round == 1 ? bits : random.nextLong() & bits;
                 long tail = x.tail(0, x.sum(0, 0, 5), wanted);

@@ -209,9 +209,15 @@ public final class WorthTest {
             long p = random.nextLong() & (1L << width) - 1 | 1;
             x.form(width, p, 0, 0, false, false);
             x.form(8, 7, 0, 0, false, false);
+            // Which of the calls comes first must not count.
+            long least = Plain.factorsOf(1L << width | p).get(0)[0];
+            if (round % 2 == 0) {
+                due.is("factor of a form anew", x.factor(0, 0, 0), least);
+            }
             due.is("order of a form anew", x.order(0), orderOf(width, p));
             due.is("order of the other", x.order(1), 127);
             due.is("factors of a form anew", x.factors(0), Plain.factorsOf(1L << width | p).size());
+            due.is("factor behind order and factors", x.factor(0, 0, 0), least);
             due.is("distance of a form anew", x.distance(0, 20), Plain.distanceOf(1L << width | p, 20));
             due.is("distance of the other", x.distance(1, 20), 4);
             x.forget();
