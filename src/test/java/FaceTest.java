@@ -87,6 +87,7 @@ public final class FaceTest {
             due.holds(one + " has at most twenty fields", fields <= 20);
             for (Method method : one.getDeclaredMethods()) {
                 due.holds(method + " has at most seven parameters", method.getParameterCount() <= 7);
+                due.holds(method + " is no lambda", !method.getName().startsWith("lambda$"));
                 due.holds(method + " bears no public name",
                         visible(method) || !names.contains(method.getName()));
             }
@@ -95,12 +96,11 @@ public final class FaceTest {
 
     private static void words(String source) {
         String code = source.replaceAll("(?s)/\\*.*?\\*/", "").replaceAll("//[^\n]*", "");
-        for (String word : List.of("throw", "try", "catch", "synchronized", "assert", "import", "package",
-                "throws", "System", "Object", "var", "yield", "native", "volatile")) {
+        for (String word : List.of("throw", "throws", "try", "catch", "synchronized", "assert", "package",
+                "native", "volatile", "Random", "Thread", "\\w+Exact")) {
             due.holds("no word " + word, !Pattern.compile("\\b" + word + "\\b").matcher(code).find());
         }
-        for (String sign : List.of("->", "::", "\"", "@", "static {")) {
-            due.holds("no sign " + sign, !code.contains(sign));
-        }
+        due.holds("no method reference", !code.contains("::"));
+        due.holds("no static initialiser", !Pattern.compile("\\bstatic\\s*\\{").matcher(code).find());
     }
 }

@@ -4,19 +4,15 @@ public final class FormsAndTextTest {
 
     public static void main(String[] args) {
         newObject();
-        formNumbers();
-        formRefusals();
-        formFull();
         forget();
         feed();
-        feedFull();
         cut();
         octetAndCount();
         due.end();
     }
 
     private static void newObject() {
-        SumForms x = new SumForms();
+        Calls x = new Calls();
         due.is("new: count(0)", x.count(0), 0);
         due.is("new: count(1)", x.count(1), 0);
         due.is("new: octet(0)", x.octet(0), -1);
@@ -24,60 +20,15 @@ public final class FormsAndTextTest {
         due.is("new: cut(0)", x.cut(0), 0);
         due.is("new: sum(0, 0, 0)", x.sum(0, 0, 0), -1);
         due.is("new: added(0, 0, 0)", x.added(0, 0, 0), 1);
-        SumForms y = new SumForms();
+        Calls y = new Calls();
         x.form(8, 7, 0, 0, false, false);
         x.feed(1, 1);
         due.is("another object: count(0)", y.count(0), 0);
         due.is("another object: count(1)", y.count(1), 0);
     }
 
-    private static void formNumbers() {
-        for (int width = 3; width <= 32; width++) {
-            SumForms x = new SumForms();
-            long most = (1L << width) - 1;
-            due.is("form least " + width, x.form(width, 1, 0, 0, false, false), 0);
-            due.is("form most " + width, x.form(width, most, most, most, true, true), 1);
-            due.is("form even " + width, x.form(width, most - 1, 0, 0, false, false), -1);
-            due.is("form polynomial " + width, x.form(width, most + 2, 0, 0, false, false), -1);
-            due.is("form start " + width, x.form(width, 1, most + 1, 0, false, false), -1);
-            due.is("form end " + width, x.form(width, 1, 0, most + 1, false, false), -1);
-            due.is("start of " + width, x.sum(1, 0, 0), 0);
-            due.is("count(0)", x.count(0), 2);
-        }
-    }
-
-    private static void formRefusals() {
-        SumForms x = new SumForms();
-        for (int width : new int[] {Integer.MIN_VALUE, -1, 0, 1, 2, 33, 34, 63, 64, 65, 99, Integer.MAX_VALUE}) {
-            due.is("form width " + width, x.form(width, 1, 0, 0, false, false), -1);
-        }
-        for (long wrong : new long[] {-1, -7, Long.MIN_VALUE, Long.MIN_VALUE + 1, Long.MAX_VALUE, 257, 256}) {
-            due.is("form polynomial " + wrong, x.form(8, wrong, 0, 0, false, false), -1);
-            due.is("form start " + wrong, x.form(8, 7, wrong, 0, false, false), -1);
-            due.is("form end " + wrong, x.form(8, 7, 0, wrong, false, false), -1);
-        }
-        due.is("form polynomial 0", x.form(8, 0, 0, 0, false, false), -1);
-        due.is("refusals change nothing", x.count(0), 0);
-    }
-
-    private static void formFull() {
-        SumForms x = new SumForms();
-        for (int i = 0; i < 8; i++) {
-            due.is("form " + i, x.form(8, 2 * i + 1, i, 0, false, false), i);
-        }
-        due.is("form 8", x.form(8, 1, 0, 0, false, false), -2);
-        due.is("BAD comes before FULL: width", x.form(2, 1, 0, 0, false, false), -1);
-        due.is("BAD comes before FULL: polynomial", x.form(8, 2, 0, 0, false, false), -1);
-        due.is("BAD comes before FULL: start", x.form(8, 1, 256, 0, false, false), -1);
-        due.is("BAD comes before FULL: end", x.form(8, 1, 0, -1, false, false), -1);
-        due.is("count(0)", x.count(0), 8);
-        for (int i = 0; i < 8; i++) {
-            due.is("form " + i + " is as it was", x.sum(i, 0, 0), i);
-        }
-    }
-
     private static void forget() {
-        SumForms x = new SumForms();
+        Calls x = new Calls();
         x.feed(3, 0x010203);
         for (int round = 0; round < 5; round++) {
             for (int i = 0; i < 3 + round; i++) {
@@ -101,7 +52,7 @@ public final class FormsAndTextTest {
     }
 
     private static void feed() {
-        SumForms x = new SumForms();
+        Calls x = new Calls();
         long v = 0xF1E2D3C4B5A69788L;
         int all = 0;
         for (int n = 1; n <= 8; n++) {
@@ -119,30 +70,8 @@ public final class FormsAndTextTest {
         due.is("octet of -1", x.octet(all), 255);
     }
 
-    private static void feedFull() {
-        SumForms x = new SumForms();
-        for (int i = 1; i <= 74; i++) {
-            x.feed(8, i);
-        }
-        due.is("592 octets", x.count(1), 592);
-        due.is("feed(7) to 599", x.feed(7, 0x77), 599);
-        due.is("feed(2) to 601", x.feed(2, 0x1111), -2);
-        due.is("feed(8) to 607", x.feed(8, 0x1111), -2);
-        due.is("BAD comes before FULL", x.feed(9, 0), -1);
-        due.is("FULL changes nothing", x.count(1), 599);
-        due.is("the last octet", x.octet(598), 0x77);
-        due.is("feed(1) to 600", x.feed(1, 0x55), 600);
-        due.is("octet(599)", x.octet(599), 0x55);
-        due.is("octet(600)", x.octet(600), -1);
-        due.is("feed(1) to 601", x.feed(1, 0), -2);
-        due.is("feed(0) when full", x.feed(0, 0), -1);
-        due.is("cut(599)", x.cut(599), 1);
-        due.is("feed(1) to 600 again", x.feed(1, 0x44), 600);
-        due.is("octet(599) now", x.octet(599), 0x44);
-    }
-
     private static void cut() {
-        SumForms x = new SumForms();
+        Calls x = new Calls();
         x.feed(8, 0x0102030405060708L);
         due.is("cut(9)", x.cut(9), -1);
         due.is("cut(-1)", x.cut(-1), -1);
@@ -162,7 +91,7 @@ public final class FormsAndTextTest {
     }
 
     private static void octetAndCount() {
-        SumForms x = new SumForms();
+        Calls x = new Calls();
         x.feed(2, 0xFF80);
         due.is("octet(0)", x.octet(0), 255);
         due.is("octet(1)", x.octet(1), 128);

@@ -5,11 +5,16 @@ final class Octets {
     private Octets() {
     }
 
-    static byte[] feed(SumForms x, Random random, int n) {
+    static byte[] feed(Calls x, Random random, int n) {
         byte[] octets = new byte[n];
         random.nextBytes(octets);
-        for (byte octet : octets) {
-            x.feed(1, octet);
+        for (int i = 0; i < n; i += 8) {
+            int many = Math.min(8, n - i);
+            long v = 0;
+            for (int k = 0; k < many; k++) {
+                v = v << 8 | octets[i + k] & 255;
+            }
+            x.feed(many, v);
         }
         return octets;
     }

@@ -1,15 +1,16 @@
 import java.util.Random;
 
-/** All promises: runs of 512 calls, many of them wrong, on a SumForms and a Plain alike. */
+/** All promises: runs of some 512 calls, many of them wrong, on a SumForms and a Plain alike. */
 public final class RandomRunsTest {
     private static final Due due = new Due("RandomRunsTest");
+    private static final int MOST_AT_ONCE = 3;
     private static final int[] INTS = {Integer.MIN_VALUE, -2, -1, 0, 1, 2, 3, 7, 8, 9, 16, 24, 32, 33, 199,
         200, 201, 255, 256, 599, 600, 601, Integer.MAX_VALUE};
     private static final long[] LONGS = {Long.MIN_VALUE, -2, -1, 0, 1, 2, 7, 8, 254, 255, 256, 65520, 65521,
         65535, 65536, 4294967295L, 4294967296L, (1L << 60) - 1, 1L << 60, (1L << 60) + 1, Long.MAX_VALUE};
 
     private final Random random;
-    private final SumForms x = new SumForms();
+    private final Calls x = new Calls();
     private final Plain plain = new Plain();
     private final int[] widths = new int[8];
 
@@ -18,9 +19,9 @@ public final class RandomRunsTest {
     }
 
     public static void main(String[] args) {
-        for (int run = 0; run < 400 && due.allRight(); run++) {
+        for (int run = 0; run < 600 && due.allRight(); run++) {
             RandomRunsTest one = new RandomRunsTest(run);
-            for (int call = 0; call < 512; call++) {
+            for (int call = 0; one.x.left() > MOST_AT_ONCE; call++) {
                 one.any("run " + run + ", call " + call + ": ");
             }
         }

@@ -1,3 +1,4 @@
+import java.util.ArrayList;
 import java.util.List;
 import java.util.Random;
 
@@ -10,44 +11,44 @@ public final class WorthTest {
         wellKnown();
         allNarrow();
         someWide();
+        ordersOfEachKind();
         products();
         mostFactors();
         distances();
         farDistances();
         reusedForms();
-        refusals();
         due.end();
     }
 
-    private static SumForms of(int width, long polynomial) {
-        SumForms x = new SumForms();
+    private static Calls of(int width, long polynomial) {
+        Calls x = new Calls();
         x.form(width, polynomial, 0, 0, false, false);
         return x;
     }
 
     private static void wellKnown() {
-        SumForms x = of(32, 0x04C11DB7);
+        Calls x = of(32, 0x04C11DB7);
         due.is("factors of CRC-32", x.factors(0), 1);
         due.is("factor of CRC-32", x.factor(0, 0, 0), 0x104C11DB7L);
         due.is("how often", x.factor(0, 0, 1), 1);
         due.is("order of CRC-32", x.order(0), 4294967295L);
-        SumForms y = of(32, 0x1EDC6F41);
+        Calls y = of(32, 0x1EDC6F41);
         due.is("factors of CRC-32C", y.factors(0), 2);
         due.is("factor 0 of CRC-32C", y.factor(0, 0, 0), 3);
         due.is("order of CRC-32C", y.order(0), 2147483647L);
         for (int width = 3; width <= 32; width++) {
-            SumForms z = of(width, 1);
+            Calls z = of(width, 1);
             due.is("order of x^" + width + " + 1", z.order(0), width);
             due.is("distance of x^" + width + " + 1", z.distance(0, width), 5);
             due.is("distance of x^" + width + " + 1, a bit more", z.distance(0, width + 1), 2);
         }
-        SumForms often = of(32, 1);
+        Calls often = of(32, 1);
         due.is("factors of (x + 1)^32", often.factors(0), 1);
         due.is("factor of (x + 1)^32", often.factor(0, 0, 0), 3);
         due.is("how often x + 1", often.factor(0, 0, 1), 32);
     }
 
-    private static void sameFactors(SumForms x, long g) {
+    private static void sameFactors(Calls x, long g) {
         List<long[]> want = Plain.factorsOf(g);
         due.is("factors of " + g, x.factors(0), want.size());
         for (int i = 0; i < want.size(); i++) {
@@ -61,7 +62,7 @@ public final class WorthTest {
     private static void allNarrow() {
         for (int width = 3; width <= 14; width++) {
             for (long p = 1; p < 1L << width; p += 2) {
-                SumForms x = of(width, p);
+                Calls x = of(width, p);
                 sameFactors(x, 1L << width | p);
                 due.is("order of " + (1L << width | p), x.order(0), orderOf(width, p));
             }
@@ -87,7 +88,7 @@ public final class WorthTest {
             for (int round = 0; round < 60; round++) {
                 long p = round == 0 ? 1 : round == 1 ? (1L << width) - 1
                         : random.nextLong() & (1L << width) - 1 | 1;
-                SumForms x = of(width, p);
+                Calls x = of(width, p);
                 if (round < 20) {
                     sameFactors(x, 1L << width | p);
                 }
@@ -95,6 +96,94 @@ public final class WorthTest {
                         Plain.isOrder(1L << width | p, x.order(0)));
             }
         }
+    }
+
+    /**
+     * For each degree d the least polynomials of powers a^k, where a has all the 2^d - 1 powers: such a
+     * power has (2^d - 1) / k of them, which is the order of its polynomial.
+     */
+    private static void ordersOfEachKind() {
+        for (int d = 3; d <= 32; d++) {
+            long all = (1L << d) - 1;
+            long g = 1L << d | 1;
+            while (!Plain.isOrder(g, all)) {
+                g += 2;
+            }
+            due.is("order of " + g, of(d, g ^ 1L << d).order(0), all);
+            for (long k : someDivisors(all)) {
+                long least = leastPolynomial(power(2, k, g), g);
+                int width = 63 - Long.numberOfLeadingZeros(least);
+                if (width >= 3) {
+                    due.is("order of " + least, of(width, least ^ 1L << width).order(0), all / k);
+                    due.is("factors of " + least, of(width, least ^ 1L << width).factors(0), 1);
+                }
+            }
+        }
+    }
+
+    /** Each prime, its square where that divides, and the products of two neighbours. */
+    private static List<Long> someDivisors(long n) {
+        List<Long> divisors = new ArrayList<>();
+        long rest = n;
+        long before = 1;
+        for (long p = 3; rest > 1; p += 2) {
+            if (p * p > rest) {
+                p = rest;
+            }
+            if (rest % p == 0) {
+                divisors.add(p);
+                divisors.add(p * before);
+                divisors.add(n / p % p == 0 ? p * p : p);
+                before = p;
+            }
+            while (rest % p == 0) {
+                rest /= p;
+            }
+        }
+        return divisors;
+    }
+
+    /** The product of all x - b^(2^i), which has no coefficients but 0 and 1. */
+    private static long leastPolynomial(long b, long g) {
+        List<Long> product = List.of(1L);
+        long root = b;
+        do {
+            List<Long> next = new ArrayList<>();
+            for (int i = 0; i <= product.size(); i++) {
+                long moved = i == 0 ? 0 : product.get(i - 1);
+                long scaled = i == product.size() ? 0 : remainder(times(product.get(i), root), g);
+                next.add(moved ^ scaled);
+            }
+            product = next;
+            root = remainder(times(root, root), g);
+        } while (root != b);
+        long all = 0;
+        for (int i = 0; i < product.size(); i++) {
+            due.holds("a coefficient is 0 or 1", product.get(i) >>> 1 == 0);
+            all |= product.get(i) << i;
+        }
+        return all;
+    }
+
+    private static long power(long p, long n, long g) {
+        long all = 1;
+        for (int bit = 63; bit >= 0; bit--) {
+            all = remainder(times(all, all), g);
+            if ((n >>> bit & 1) != 0) {
+                all = remainder(times(all, p), g);
+            }
+        }
+        return all;
+    }
+
+    private static long remainder(long p, long g) {
+        long rest = p;
+        for (int shift = Long.numberOfLeadingZeros(g); shift >= 0; shift--) {
+            if (Long.numberOfLeadingZeros(rest) == Long.numberOfLeadingZeros(g << shift)) {
+                rest ^= g << shift;
+            }
+        }
+        return rest;
     }
 
     /** Products of a few small polynomials, so that there are many factors, alike and unlike. */
@@ -109,7 +198,7 @@ public final class WorthTest {
             }
             int width = 63 - Long.numberOfLeadingZeros(g);
             if (width >= 3) {
-                SumForms x = of(width, g ^ 1L << width);
+                Calls x = of(width, g ^ 1L << width);
                 sameFactors(x, g);
                 due.holds("order of " + g + " is " + x.order(0), Plain.isOrder(g, x.order(0)));
             }
@@ -129,17 +218,17 @@ public final class WorthTest {
         for (long p : new long[] {3, 7, 11, 13, 19, 25, 31, 37, 41}) {
             g = times(g, p);
         }
-        SumForms x = of(31, g ^ 1L << 31);
+        Calls x = of(31, g ^ 1L << 31);
         due.is("nine factors", x.factors(0), 9);
         sameFactors(x, g);
         due.is("their order", x.order(0), 3 * 5 * 7 * 31);
-        SumForms fives = of(30, times(times(times(37, 41), times(47, 55)), times(59, 61)) ^ 1L << 30);
+        Calls fives = of(30, times(times(times(37, 41), times(47, 55)), times(59, 61)) ^ 1L << 30);
         due.is("all six of degree 5", fives.factors(0), 6);
         sameFactors(fives, times(times(times(37, 41), times(47, 55)), times(59, 61)));
         long[] sixteens = {0x1002D, 0x1100B, 0x10039, 0x138CF};
         for (long p : sixteens) {
             for (long q : sixteens) {
-                SumForms two = of(32, times(p, q) ^ 1L << 32);
+                Calls two = of(32, times(p, q) ^ 1L << 32);
                 sameFactors(two, times(p, q));
                 due.holds("order of " + p + " times " + q, Plain.isOrder(times(p, q), two.order(0)));
             }
@@ -149,7 +238,7 @@ public final class WorthTest {
     private static void distances() {
         for (int width = 3; width <= 9; width++) {
             for (long p = 1; p < 1L << width; p += 2) {
-                SumForms x = of(width, p);
+                Calls x = of(width, p);
                 for (int n = 40; n >= 1; n -= width < 7 ? 1 : 3) {
                     due.is("distance of " + (1L << width | p) + " for " + n, x.distance(0, n),
                             Plain.distanceOf(1L << width | p, n));
@@ -169,7 +258,7 @@ public final class WorthTest {
         for (int width : new int[] {8, 13, 16, 17, 20, 24, 29, 32}) {
             for (int round = 0; round < 4; round++) {
                 long p = random.nextLong() & (1L << width) - 1 | 1;
-                SumForms x = of(width, p);
+                Calls x = of(width, p);
                 for (int n : new int[] {200, 199, 150}) {
                     due.is("distance of " + (1L << width | p) + " for " + n, x.distance(0, n),
                             Plain.distanceOf(1L << width | p, n));
@@ -185,7 +274,7 @@ public final class WorthTest {
         for (int round = 0; round < 4000 && found < 12; round++) {
             int width = 14 + random.nextInt(10);
             long p = random.nextLong() & (1L << width) - 1 | 1;
-            SumForms x = of(width, p);
+            Calls x = of(width, p);
             int most = x.distance(0, 199);
             if (x.distance(0, 200) < most) {
                 found++;
@@ -195,7 +284,7 @@ public final class WorthTest {
                         Plain.distanceOf(1L << width | p, 200));
             }
         }
-        SumForms x = of(11, 0x475);
+        Calls x = of(11, 0x475);
         due.is("Golay's code, 23 bits", x.distance(0, 23), 5);
         due.is("Golay's code, 24 bits", x.distance(0, 24), 2);
         due.holds("some forms change at 200 bits", found > 0);
@@ -203,8 +292,8 @@ public final class WorthTest {
 
     /** What has been found out about a form must not be told of the next one with its number. */
     private static void reusedForms() {
-        SumForms x = new SumForms();
-        for (int round = 0; round < 60; round++) {
+        Calls x = new Calls();
+        for (int round = 0; round < 40; round++) {
             int width = 3 + random.nextInt(8);
             long p = random.nextLong() & (1L << width) - 1 | 1;
             x.form(width, p, 0, 0, false, false);
@@ -222,27 +311,5 @@ public final class WorthTest {
             due.is("distance of the other", x.distance(1, 20), 4);
             x.forget();
         }
-    }
-
-    private static void refusals() {
-        SumForms x = of(16, 4129);
-        for (int form : new int[] {-1, 1, 8, Integer.MIN_VALUE, Integer.MAX_VALUE}) {
-            due.is("factors of form " + form, x.factors(form), -1);
-            due.is("factor of form " + form, x.factor(form, 0, 0), -1);
-            due.is("order of form " + form, x.order(form), -1);
-            due.is("distance of form " + form, x.distance(form, 5), -1);
-        }
-        for (int i : new int[] {-1, 2, 9, Integer.MIN_VALUE, Integer.MAX_VALUE}) {
-            due.is("factor " + i, x.factor(0, i, 0), -1);
-            due.is("factor " + i + ", how often", x.factor(0, i, 1), -1);
-        }
-        for (int what : new int[] {-1, 2, Integer.MIN_VALUE, Integer.MAX_VALUE}) {
-            due.is("factor, what " + what, x.factor(0, 0, what), -1);
-        }
-        for (int n : new int[] {0, -1, 201, Integer.MIN_VALUE, Integer.MAX_VALUE}) {
-            due.is("distance for " + n, x.distance(0, n), -1);
-        }
-        due.is("distance for 1", x.distance(0, 1), 5);
-        due.is("distance for 200", x.distance(0, 200), 4);
     }
 }
