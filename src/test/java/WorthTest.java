@@ -15,6 +15,7 @@ public final class WorthTest {
         products();
         mostFactors();
         distances();
+        distancesInARow();
         farDistances();
         reusedForms();
         due.end();
@@ -251,6 +252,25 @@ public final class WorthTest {
             int n = 1 + random.nextInt(90);
             due.is("distance of " + (1L << width | p) + " for " + n, of(width, p).distance(0, n),
                     Plain.distanceOf(1L << width | p, n));
+        }
+    }
+
+    /** What has been looked at for one form must not be taken for what another one has. */
+    private static void distancesInARow() {
+        for (int round = 0; round < 120; round++) {
+            Calls x = new Calls();
+            long[] g = new long[8];
+            for (int i = 0; i < 8; i++) {
+                int width = 3 + random.nextInt(14);
+                g[i] = 1L << width | random.nextLong() & (1L << width) - 1 | 1;
+                x.form(width, g[i] ^ 1L << width, 0, 0, false, false);
+            }
+            for (int i = 0; i < 8; i++) {
+                for (int n = 10; n <= 40; n += 6) {
+                    due.is("distance of " + g[i] + " for " + n + " behind others", x.distance(i, n),
+                            Plain.distanceOf(g[i], n));
+                }
+            }
         }
     }
 
