@@ -489,7 +489,7 @@ public final class SumForms {
             period = 0;
             long rest = generator;
             long power = Polynomials.X;
-            for (int d = 1; 2 * d <= Polynomials.degree(rest); d++) {
+            for (int d = 1; d < MOST_WIDTH && 2 * d <= Polynomials.degree(rest); d++) {
                 power = Polynomials.product(power, power, rest);
                 long common = Polynomials.greatestCommon(rest, power ^ Polynomials.X);
                 if (common != 1) {
@@ -571,7 +571,7 @@ public final class SumForms {
                 period = leastCommonMultiple(period, periodOf(polynomials[i]));
                 most = most < times[i] ? times[i] : most;
             }
-            for (int doubled = 1; doubled < most; doubled *= 2) {
+            for (int doubled = 1; doubled < MOST_WIDTH && doubled < most; doubled *= 2) {
                 period *= 2;
             }
             return period;

@@ -8,9 +8,12 @@ import java.nio.file.Files;
 import java.nio.file.Path;
 import java.util.ArrayList;
 import java.util.Arrays;
+import java.util.HashMap;
 import java.util.List;
+import java.util.Map;
 import java.util.Set;
 import java.util.TreeSet;
+import java.util.regex.Matcher;
 import java.util.regex.Pattern;
 
 /** The public face is the document's and no more, and the source keeps to LANGUAGE.md. */
@@ -28,7 +31,12 @@ public final class FaceTest {
     public static void main(String[] args) throws Exception {
         members();
         nested();
-        words(Files.readString(Path.of(System.getProperty("source"))));
+        String source = Files.readString(Path.of(System.getProperty("source")));
+        String code = source.replaceAll("(?s)/\\*.*?\\*/", "").replaceAll("//[^\n]*", "");
+        words(code);
+        objectsMade(code);
+        headings(source);
+        room();
         due.end();
     }
 
@@ -94,13 +102,78 @@ public final class FaceTest {
         }
     }
 
-    private static void words(String source) {
-        String code = source.replaceAll("(?s)/\\*.*?\\*/", "").replaceAll("//[^\n]*", "");
+    private static void words(String code) {
         for (String word : List.of("throw", "throws", "try", "catch", "synchronized", "assert", "package",
-                "native", "volatile", "Random", "Thread", "\\w+Exact")) {
+                "import", "native", "volatile", "Random", "Thread", "System", "\\w+Exact", "equals",
+                "hashCode", "toString", "float", "double")) {
             due.holds("no word " + word, !Pattern.compile("\\b" + word + "\\b").matcher(code).find());
         }
         due.holds("no method reference", !code.contains("::"));
+        due.holds("no lambda", !code.contains("->"));
         due.holds("no static initialiser", !Pattern.compile("\\bstatic\\s*\\{").matcher(code).find());
+    }
+
+    /** What a call makes would be counted for every call of a run: fields and the constructor make all. */
+    private static void objectsMade(String code) {
+        for (String line : code.lines().toList()) {
+            if (Pattern.compile("\\bnew\\b").matcher(line).find()) {
+                due.holds("made once for an object: " + line.strip(),
+                        line.strip().startsWith("private final ") || line.contains("forms[i] = new Form();"));
+            }
+        }
+    }
+
+    private static void headings(String source) {
+        Map<String, List<String>> ahead = Map.of(
+                "", List.of("form", "forget", "feed", "cut", "octet", "count"),
+                "sums", List.of("sum", "joined", "zeros", "changed", "tail"),
+                "what a form is worth", List.of("factors", "factor", "order", "distance"),
+                "adding sums", List.of("added", "addedJoined"));
+        Map<String, List<String>> seen = new HashMap<>();
+        String heading = "";
+        for (String line : source.lines().map(String::strip).toList()) {
+            Matcher call = Pattern.compile("public (?:int|long) (\\w+)\\(.*").matcher(line);
+            if (line.startsWith("// ---- ")) {
+                heading = line.substring("// ---- ".length());
+            } else if (call.matches()) {
+                seen.computeIfAbsent(heading, none -> new ArrayList<>()).add(call.group(1));
+            }
+        }
+        due.holds("the calls behind each heading: " + seen, seen.equals(ahead));
+    }
+
+    /** As README.md says: all rows are made with the object, and a run of calls makes no more of them. */
+    private static void room() throws Exception {
+        SumForms x = new SumForms();
+        Room before = new Room();
+        before.lookAt(x);
+        due.is("objects of a new one", before.objects(), 46);
+        due.holds("elements of a new one: some 1,600: " + before.elements(),
+                before.elements() > 1550 && before.elements() < 1650);
+        for (int round = 0; round < 25; round++) {
+            x.form(3 + round, 1 + 2 * round % 8, 1, 2, true, false);
+            x.feed(8, round);
+            x.sum(0, 0, 8);
+            x.joined(0, 1, 2, 1L << 60);
+            x.zeros(0, 1, 1L << 60);
+            x.changed(0, 1, 1L << 60, 255);
+            x.tail(5, 1, 2);
+            x.factors(0);
+            x.factor(0, 0, 0);
+            x.order(0);
+            x.distance(0, 200);
+            x.added(0, 0, 8);
+            x.addedJoined(0, 1, 1, 1L << 60);
+            x.octet(0);
+            x.count(0);
+            x.cut(0);
+            if (round % 9 == 8) {
+                x.forget();
+            }
+        }
+        Room after = new Room();
+        after.lookAt(x);
+        due.is("objects behind a run", after.objects(), before.objects());
+        due.is("elements behind a run", after.elements(), before.elements());
     }
 }
